@@ -174,11 +174,8 @@ public final class DoorsOneSide {
         if (!now.has(person)) {
             return refused(NOBODY);
         }
-        if (v < 0) {
-            return refused(BELOW);
-        }
-        if (v > DIGIT_MOST) {
-            return refused(NO_ROOM);
+        if (v < 0 || v > DIGIT_MOST) {
+            return refusedNumber(v);
         }
         return exchange(now.moods, person, v);
     }
@@ -190,11 +187,8 @@ public final class DoorsOneSide {
         if (kind < 0 || kind >= KINDS) {
             return refused(OTHER);
         }
-        if (figure < 0) {
-            return refused(BELOW);
-        }
-        if (figure > DIGIT_MOST) {
-            return refused(NO_ROOM);
+        if (figure < 0 || figure > DIGIT_MOST) {
+            return refusedNumber(figure);
         }
         return 10 * exchange(now.doors.kinds, door, kind) + exchange(now.doors.figures, door, figure);
     }
@@ -216,11 +210,8 @@ public final class DoorsOneSide {
         if (!now.has(person)) {
             return refused(NOBODY);
         }
-        if (n < 0) {
-            return refused(BELOW);
-        }
-        if (n > LOOK_MOST) {
-            return refused(NO_ROOM);
+        if (n < 0 || n > LOOK_MOST) {
+            return refusedNumber(n);
         }
         if (!isHalf(what)) {
             return refused(OTHER);
@@ -231,11 +222,8 @@ public final class DoorsOneSide {
     }
 
     public int letThen(int n) {
-        if (n < 0) {
-            return refused(BELOW);
-        }
-        if (n > LOOK_MOST) {
-            return refused(NO_ROOM);
+        if (n < 0 || n > LOOK_MOST) {
+            return refusedNumber(n);
         }
         mind.become(now);
         mind.goHours(n, false);
@@ -315,7 +303,8 @@ public final class DoorsOneSide {
         if (what == 0) {
             return toldWay(now.doors.wayBetween(room, other));
         }
-        return now.doors.firstDoor(room, other);
+        int firsts = now.doors.firstDoors(room, other);
+        return firsts == 0 ? NONE : Integer.numberOfTrailingZeros(firsts);
     }
 
     public int round(int room) {
@@ -357,11 +346,8 @@ public final class DoorsOneSide {
     // ---- who helps, what to change ----
 
     public int helper(int n, int what) {
-        if (n < 0) {
-            return refused(BELOW);
-        }
-        if (n > TRY_MOST) {
-            return refused(NO_ROOM);
+        if (n < 0 || n > TRY_MOST) {
+            return refusedNumber(n);
         }
         if (!isHalf(what)) {
             return refused(OTHER);
@@ -390,11 +376,8 @@ public final class DoorsOneSide {
         if (!now.has(person)) {
             return refused(NOBODY);
         }
-        if (n < 0) {
-            return refused(BELOW);
-        }
-        if (n > TRY_MOST) {
-            return refused(NO_ROOM);
+        if (n < 0 || n > TRY_MOST) {
+            return refusedNumber(n);
         }
         int best = NONE;
         for (int bits = 0; bits < 1 << now.size; bits++) {
@@ -418,21 +401,15 @@ public final class DoorsOneSide {
     }
 
     public int turn(int n) {
-        if (n < 0) {
-            return refused(BELOW);
-        }
-        if (n > TRY_MOST) {
-            return refused(NO_ROOM);
+        if (n < 0 || n > TRY_MOST) {
+            return refusedNumber(n);
         }
         return doorToChange(n, true);
     }
 
     public int wedge(int n) {
-        if (n < 0) {
-            return refused(BELOW);
-        }
-        if (n > TRY_MOST) {
-            return refused(NO_ROOM);
+        if (n < 0 || n > TRY_MOST) {
+            return refusedNumber(n);
         }
         return doorToChange(n, false);
     }
@@ -460,11 +437,8 @@ public final class DoorsOneSide {
     }
 
     public int holds(int n, int what) {
-        if (n < 0) {
-            return refused(BELOW);
-        }
-        if (n > TRY_MOST) {
-            return refused(NO_ROOM);
+        if (n < 0 || n > TRY_MOST) {
+            return refusedNumber(n);
         }
         if (!isHalf(what)) {
             return refused(OTHER);
@@ -567,11 +541,8 @@ public final class DoorsOneSide {
         if (!now.has(a) || !now.has(b) || a == b) {
             return refused(NOBODY);
         }
-        if (n < 0) {
-            return refused(BELOW);
-        }
-        if (n > TRY_MOST) {
-            return refused(NO_ROOM);
+        if (n < 0 || n > TRY_MOST) {
+            return refusedNumber(n);
         }
         for (int pair = 0; pair < 4; pair++) {
             tryPair(a, b, pair, n);
@@ -800,6 +771,11 @@ public final class DoorsOneSide {
         return refusal;
     }
 
+    /** Refuses a number of which 0 is the least. */
+    private int refusedNumber(int v) {
+        return refused(v < 0 ? BELOW : NO_ROOM);
+    }
+
     private long refusedLong(int refusal) {
         return LONG_REFUSAL - refused(refusal);
     }
@@ -921,7 +897,10 @@ public final class DoorsOneSide {
         final int[] froms = new int[DOORS_MOST];
         final int[] intos = new int[DOORS_MOST];
         final int[] wedged = new int[DOORS_MOST];
+        /** How many doors it is from one room (times ROOMS) to another one. */
         final int[] ways = new int[ROOMS * ROOMS];
+        /** The doors (bits) that are first ones of such a way. */
+        final int[] firsts = new int[ROOMS * ROOMS];
         int size;
 
         Doors() {
@@ -935,6 +914,7 @@ public final class DoorsOneSide {
             copy(other.intos, intos);
             copy(other.wedged, wedged);
             copy(other.ways, ways);
+            copy(other.firsts, firsts);
             size = other.size;
         }
 
@@ -975,18 +955,9 @@ public final class DoorsOneSide {
             return isRoom(room) && isRoom(other) ? at(ways, room * ROOMS + other) : FAR;
         }
 
-        boolean isFirstDoor(int door, int room, int other) {
-            return at(froms, door) == room
-                && wayBetween(at(intos, door), other) + 1 == wayBetween(room, other);
-        }
-
-        int firstDoor(int room, int other) {
-            for (int d = 0; d < size; d++) {
-                if (isFirstDoor(d, room, other)) {
-                    return d;
-                }
-            }
-            return NONE;
+        /** None where one is there already, or where there is no way. */
+        int firstDoors(int room, int other) {
+            return isRoom(room) && isRoom(other) ? at(firsts, room * ROOMS + other) : 0;
         }
 
         /** No shortest way has more doors than there are other rooms, so that many rounds are enough. */
@@ -994,12 +965,39 @@ public final class DoorsOneSide {
             for (int i = 0; i < ROOMS * ROOMS; i++) {
                 put(ways, i, i / ROOMS == i % ROOMS ? 0 : FAR);
             }
-            for (int round = 1; round < ROOMS; round++) {
-                for (int i = 0; i < size * ROOMS; i++) {
-                    int goal = i % ROOMS;
-                    int way = at(froms, i / ROOMS) * ROOMS + goal;
-                    int rest = at(intos, i / ROOMS) * ROOMS + goal;
-                    put(ways, way, Math.min(at(ways, way), 1 + at(ways, rest)));
+            boolean isShorter = true;
+            for (int round = 1; round < ROOMS && isShorter; round++) {
+                isShorter = false;
+                for (int d = 0; d < size; d++) {
+                    isShorter |= shortenWaysBy(at(froms, d), at(intos, d));
+                }
+            }
+            findFirsts();
+        }
+
+        /** Answers whether a door made a way shorter. */
+        private boolean shortenWaysBy(int from, int into) {
+            boolean isShorter = false;
+            for (int other = 0; other < ROOMS; other++) {
+                int through = 1 + at(ways, into * ROOMS + other);
+                if (through < at(ways, from * ROOMS + other)) {
+                    put(ways, from * ROOMS + other, through);
+                    isShorter = true;
+                }
+            }
+            return isShorter;
+        }
+
+        private void findFirsts() {
+            for (int i = 0; i < ROOMS * ROOMS; i++) {
+                put(firsts, i, 0);
+            }
+            for (int i = 0; i < size * ROOMS; i++) {
+                int door = i / ROOMS;
+                int way = at(froms, door) * ROOMS + i % ROOMS;
+                int rest = at(intos, door) * ROOMS + i % ROOMS;
+                if (1 + at(ways, rest) == at(ways, way)) {
+                    put(firsts, way, at(firsts, way) | 1 << door);
                 }
             }
         }
@@ -1106,10 +1104,9 @@ public final class DoorsOneSide {
 
         /** The door through which one goes; -9 if none opens, or if he is in his goal. */
         int doorFor(int person, int inHour, boolean isFire) {
-            int room = at(rooms, person);
-            int goal = at(goals, person);
-            for (int d = 0; d < doors.size && room != goal; d++) {
-                if (doors.isFirstDoor(d, room, goal) && (isFire || opens(d, inHour))) {
+            int firsts = doors.firstDoors(at(rooms, person), at(goals, person));
+            for (int d = 0; d < doors.size && firsts >> d != 0; d++) {
+                if (hasBit(firsts, d) && (isFire || opens(d, inHour))) {
                     return d;
                 }
             }

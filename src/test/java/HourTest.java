@@ -187,6 +187,12 @@ public final class HourTest {
         x = Due.of("dk501;p176;p011;");
         DUE.is("NEXT, were he first, with MOOD 6", 0, x.person(1, 3));
         DUE.is("MOOD 6 is 5 when the other knocks", 1, x.hours(1));
+        x = Due.of("dk101;p110;p015;");
+        DUE.is("MOOD 0 is below FIGURE 1", 1, x.hours(1));
+        x = Due.of("dk001;p110;p015;");
+        DUE.is("MOOD 0 is enough for FIGURE 0", 2, x.hours(1));
+        x = Due.of("dk001;p015;");
+        DUE.is("but somebody must be there", 0, x.hours(1));
         x = Due.of("dk501;p011;p175;");
         DUE.is("MOOD 5 when the first knocks", 1, x.hours(1));
     }

@@ -72,6 +72,9 @@ public final class OddsTest {
         x = Due.of("p009;p003;p002;p000;");
         DUE.is("mean(0) of 9, 3, 2, 0", 7, x.mean(0));
         DUE.is("mean(1) of 9, 3, 2, 0", 2, x.mean(1));
+        x = Due.of("p001;p001;p001;p001;p001;p009;");
+        DUE.is("mean(0) of six", 7, x.mean(0));
+        DUE.is("mean(1) of six", 3, x.mean(1));
         x = Due.of("p000;p000;p000;");
         DUE.is("mean(0) of noughts", 0, x.mean(0));
         DUE.is("mean(1) of noughts", 1, x.mean(1));

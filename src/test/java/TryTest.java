@@ -36,6 +36,8 @@ public final class TryTest {
         DUE.is("a seventh one helps six", 1, x.helper(1, 0));
         DUE.is("all six", 6, x.helper(1, 1));
         DUE.is("people stay six", 6, x.count(1));
+        x.changes(0, 2, 9);
+        DUE.is("a seventh one has MOOD 9 too", 6, x.helper(1, 1));
         x = Due.of("p445;");
         DUE.is("helper(30, 0) where none is needed", 0, x.helper(30, 0));
         DUE.is("helper(30, 1) where none is needed", 1, x.helper(30, 1));
@@ -60,7 +62,11 @@ public final class TryTest {
         DUE.is("nobody can help", -9, x.fewest(0, 30));
         // He himself does not stay to be home: his GOAL is what it is.
         DUE.is("one without a way", -9, Due.of("p015;p115;").fewest(0, 5));
-        // The least bits are not the fewest: 1 and 2 together do as well as 3 alone.
+        // 0 and 1 together (3) do by the bolted door what 2 alone (4) does by the plain one.
+        x = Due.of("db001;dp002;do013;do023;do014;do025;p145;p145;p255;p035;");
+        DUE.is("the fewest are not the least bits", 4, x.fewest(3, 3));
+        x.stands(2, 5);
+        DUE.is("where the fewest are two", 3, x.fewest(3, 3));
         x = Due.of("dk901;dp012;w1;p120;p120;p129;p015;");
         DUE.is("the best MOOD", 4, x.fewest(3, 1));
     }
@@ -74,6 +80,8 @@ public final class TryTest {
         DUE.is("of several the least", 1, x.turn(1));
         x.turns(1);
         DUE.is("where all are home", -9, x.turn(1));
+        x = Due.of("do001;dp020;dp032;p115;p225;p325;");
+        DUE.is("what was tried before is as it was", -9, x.turn(1));
         x = Due.of("do010;do020;p015;p025;p025;");
         DUE.is("most, not least", 1, x.turn(1));
         DUE.is("turn(1) of no doors", -9, new DoorsOneSide().turn(1));
@@ -83,6 +91,7 @@ public final class TryTest {
         DoorsOneSide x = Due.of("dp023;dp001;p015;p235;p335;");
         DUE.is("wedge(0)", -9, x.wedge(0));
         DUE.is("wedge(1)", 1, x.wedge(1));
+        DUE.is("wedge(30)", 1, x.wedge(30));
         x.wedges(1);
         DUE.is("wedge(1) where it is", -9, x.wedge(1));
         x = Due.of("dp045;dp001;dp001;p015;");
@@ -99,6 +108,12 @@ public final class TryTest {
         DUE.is("holds(0, 1)", 1, x.holds(0, 1));
         DUE.is("holds(1, 0)", 1, x.holds(1, 0));
         DUE.is("holds(1, 1)", 1, x.holds(1, 1));
+        x = Due.of("dk901;p770;p119;p015;");
+        DUE.is("the others keep their MOODS", 1, x.holds(1, 0));
+        DUE.is("one is home without him", 1, x.holds(1, 1));
+        x = Due.of("p115;p225;");
+        DUE.is("of two at home the least", 0, x.holds(30, 0));
+        DUE.is("the other is counted once", 1, x.holds(30, 1));
         x = Due.of("p015;p115;p125;");
         DUE.is("who is home", 1, x.holds(5, 0));
         DUE.is("leaves none", 0, x.holds(5, 1));

@@ -27,6 +27,8 @@ public final class WayTest {
         DUE.is("way(0, 4, 0)", -9, x.way(0, 4, 0));
         DUE.is("way(0, 4, 1)", -9, x.way(0, 4, 1));
         DUE.is("way(4, 0, 1)", -9, x.way(4, 0, 1));
+        DUE.is("way(0, 1, 0) when new", -9, new DoorsOneSide().way(0, 1, 0));
+        DUE.is("way(0, 0, 0) when new", 0, new DoorsOneSide().way(0, 0, 0));
         DUE.is("way(8, 0, 2): -1 goes first", -1, x.way(8, 0, 2));
         DUE.is("way(0, 8, 2): -1 goes first", -1, x.way(0, 8, 2));
         DUE.is("way(-1, 0, 0)", -1, x.way(-1, 0, 0));
@@ -85,6 +87,13 @@ public final class WayTest {
         DUE.is("crowd(3) with a door turned", 255 - 2 - 128, x.crowd(3));
         DUE.is("crowd(4)", -2, x.crowd(4));
         DUE.is("crowd(-1)", -2, x.crowd(-1));
+        x = Due.of("p000;p010;p220;");
+        DUE.is("crowd(0) in 0", 0, x.crowd(0));
+        DUE.is("crowd(1) in 0", 2, x.crowd(1));
+        DUE.is("crowd(2) but 0 and 2", 250, x.crowd(2));
+        x.stands(0, 1);
+        x.stands(1, 1);
+        DUE.is("crowd(0) in 1", 1, x.crowd(0));
         x = Due.of("p777;");
         DUE.is("crowd(0) of one", 7, x.crowd(0));
         DUE.is("crowd(2) of one", 127, x.crowd(2));
