@@ -209,6 +209,7 @@ public final class HourTest {
         DUE.is("seven doors in seven", 1, x.hours(1));
         DUE.is("LET", 7, x.count(3));
         DUE.is("MOOD stays", 5, x.person(0, 2));
+        DUE.is("into 0 by door 0", 1, Due.of("do010;p105;").hours(1));
         x = Due.of("do067;do056;do045;do034;do023;do012;do001;p075;");
         DUE.is("told from behind", 7, x.way(0, 7, 0));
         DUE.is("NEXT", 6, x.person(0, 3));

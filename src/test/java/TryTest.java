@@ -94,6 +94,8 @@ public final class TryTest {
         DUE.is("wedge(30)", 1, x.wedge(30));
         x.wedges(1);
         DUE.is("wedge(1) where it is", -9, x.wedge(1));
+        x = Due.of("dp001;dp012;p025;");
+        DUE.is("both would be needed: each is tried alone", -9, x.wedge(2));
         x = Due.of("dp045;dp001;dp001;p015;");
         DUE.is("of several the least", 1, x.wedge(1));
         x = Due.of("dp001;dp002;p015;p025;p025;");

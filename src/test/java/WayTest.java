@@ -72,6 +72,7 @@ public final class WayTest {
         DUE.is("open() in HOUR 2", 1 + 2 + 8, x.open());
         DUE.is("MOOD of who waited", 7, x.person(1, 2));
         DUE.is("open() of nobody", 0, new DoorsOneSide().open());
+        DUE.is("open() into 0 with nobody there", 0, Due.of("dp010;p115;").open());
     }
 
     private static void crowd() {
