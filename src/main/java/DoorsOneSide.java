@@ -304,7 +304,12 @@ public final class DoorsOneSide {
             return toldWay(now.doors.wayBetween(room, other));
         }
         int firsts = now.doors.firstDoors(room, other);
-        return firsts == 0 ? NONE : Integer.numberOfTrailingZeros(firsts);
+        for (int d = 0; d < now.doors.size; d++) {
+            if (hasBit(firsts, d)) {
+                return d;
+            }
+        }
+        return NONE;
     }
 
     public int round(int room) {

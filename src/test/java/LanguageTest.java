@@ -94,6 +94,8 @@ public final class LanguageTest {
         for (String word : words) {
             DUE.is("the code has " + word, 0, times(code, word));
         }
+        String library = code.replaceAll("Math\\.(max|min)|Integer\\.bitCount|System\\.arraycopy", " ");
+        DUE.is("other calls of the library", 0, times(library, "\\b(Math|Integer|Long|System|Arrays|String|Object)\\b"));
         // Rows are read and written in at() and put() alone, where the place is looked at.
         DUE.is("places in rows", 2, times(code.replaceAll("new int\\[", "new int("), "\\w\\[[^\\]]"));
     }
