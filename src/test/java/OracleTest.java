@@ -7,8 +7,9 @@ import java.util.Random;
 /** All promises: random runs of calls, each answer compared with the Oracle's. */
 public final class OracleTest {
     private static final Due DUE = new Due("OracleTest");
-    private static final int RUNS = 400;
-    private static final int CALLS = 512;
+    private static final int RUNS = 500;
+    /** Some calls are not counted, and an object is used for 512 at most. */
+    private static final int CALLS = 400;
 
     /** For each method the least and the greatest of each number it takes. */
     private static final Map<String, int[]> CALLED = new LinkedHashMap<>();
@@ -63,6 +64,9 @@ public final class OracleTest {
         if (run % 10 != 0) {
             tell(aTown());
         }
+        if (run % 5 == 1) {
+            comeNearTheEnd();
+        }
         while (calls < CALLS) {
             int kind = lot.nextInt(20);
             if (kind == 0) {
@@ -76,6 +80,20 @@ public final class OracleTest {
         }
         for (int what = 0; what < 18; what++) {
             call("count", what);
+        }
+    }
+
+    /** HOUR near 999, a ROW and letters nearly full: else a run seldom comes to their ends. */
+    private void comeNearTheEnd() throws ReflectiveOperationException {
+        for (int i = 0; i < 16; i++) {
+            call("hours", 60);
+        }
+        call("hours", 1 + lot.nextInt(39));
+        for (int i = 0; i < 14; i++) {
+            call("row", lot.nextInt(8));
+        }
+        if (run % 2 == 0) {
+            tell("h01;".repeat(23 + lot.nextInt(2)) + "h0");
         }
     }
 
