@@ -14,6 +14,7 @@ public final class TownBoundTest {
         lettersFrom0To255();
         lettersAreAtMost96();
         a97thLetterChangesNoTown();
+        eachStatementEndsWithThe96thLetter();
         atLeastOneStatement();
         everyLetterAtEveryPlace();
         theEndIfSomethingLacks();
@@ -83,6 +84,28 @@ public final class TownBoundTest {
         DUE.is("town of 96 letters", 24, x.town());
         DUE.is("HOUR", 24, x.count(2));
         town(23, "p000;".repeat(3) + "h01;".repeat(20));
+    }
+
+    private static void eachStatementEndsWithThe96thLetter() {
+        DoorsOneSide x = new DoorsOneSide();
+        DUE.is("w0; last", 31, Due.tell(x, "dp001;" + "w0;".repeat(30)));
+        DUE.is("WEDGED thirty times", 0, x.door(0, 4));
+        DUE.is("t0; last", 31, Due.tell(x, "dp223;" + "t0;".repeat(29) + "t1;"));
+        DUE.is("turned 29 times", 0, x.door(0, 3));
+        DUE.is("turned once", 2, x.door(1, 3));
+        DUE.is("w2; last", -2093, Due.tell(x, "w0;".repeat(31) + "w2;"));
+        DUE.is("t2; last", -2093, Due.tell(x, "w0;".repeat(31) + "t2;"));
+        DUE.is("a DOOR last", 31, Due.tell(x, "w0;".repeat(30) + "dk967;"));
+        DUE.is("the last DOOR's FIGURE", 9, x.door(2, 1));
+        DUE.is("the last DOOR's ROOM into", 7, x.door(2, 3));
+        DUE.is("HOURS last", 24, Due.tell(x, "h01;".repeat(23) + "h60;"));
+        DUE.is("HOUR", 83, x.count(2));
+        DUE.is("one of PEOPLE last", 30, Due.tell(x, "w0;".repeat(27) + "p005;p119;p769;"));
+        DUE.is("the last one's MOOD", 9, x.person(2, 2));
+        DUE.is("a GOAL last", 24, Due.tell(x, "g01;".repeat(23) + "g17;"));
+        DUE.is("his GOAL", 7, x.person(1, 1));
+        DUE.is("a ROOM last", 24, Due.tell(x, "r01;".repeat(23) + "r10;"));
+        DUE.is("his ROOM", 0, x.person(1, 0));
     }
 
     /** "At least one STATEMENT." */
