@@ -18,6 +18,7 @@ import java.util.List;
 import java.util.Map;
 import java.util.Set;
 import javax.lang.model.element.Element;
+import javax.lang.model.element.ElementKind;
 import javax.tools.JavaCompiler;
 import javax.tools.StandardJavaFileManager;
 import javax.tools.ToolProvider;
@@ -43,6 +44,7 @@ public final class DepthTest {
             task.analyze();
             Trees trees = Trees.instance(task);
             readCalls(unit, trees);
+            giveInitialisersToConstructors();
             measure(unit, trees.getSourcePositions());
         }
         for (Element method : CALLS.keySet()) {
@@ -55,6 +57,12 @@ public final class DepthTest {
 
     private static void readCalls(CompilationUnitTree unit, Trees trees) {
         new TreePathScanner<Void, Element>() {
+            @Override public Void visitClass(ClassTree type, Element outer) {
+                Element self = trees.getElement(getCurrentPath());
+                CALLS.put(self, new LinkedHashSet<>());
+                return super.visitClass(type, self);
+            }
+
             @Override public Void visitMethod(MethodTree method, Element outer) {
                 Element self = trees.getElement(getCurrentPath());
                 CALLS.put(self, new LinkedHashSet<>());
@@ -77,6 +85,16 @@ public final class DepthTest {
                 }
             }
         }.scan(unit, null);
+    }
+
+    /** What a field is given when it is told is made by the constructors. */
+    private static void giveInitialisersToConstructors() {
+        for (Element called : List.copyOf(CALLS.keySet())) {
+            if (called.getKind() == ElementKind.CONSTRUCTOR) {
+                CALLS.get(called).addAll(CALLS.get(called.getEnclosingElement()));
+            }
+        }
+        CALLS.keySet().removeIf(called -> called.getKind() == ElementKind.CLASS);
     }
 
     /** No method calls itself, not by others either: a circle would be told as too deep. */

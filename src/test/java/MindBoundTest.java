@@ -7,6 +7,12 @@ public final class MindBoundTest {
      */
     private static final String LONG_DOORS = "ds921;ds947;do967;ds930;dc061;do972;ds910;ds905;ds956;";
     private static final String LONG_PEOPLE = "p279;p469;p009;p559;p669;p319;";
+    /**
+     * Found by a search: 1 and 3 sit in 0 and 2. 2 is home in 7 behind 14 HOURS, and lets 5 through, who is home in 1
+     * behind 26 and lets 4 through, who is home in 4 behind 46 and lets 0 through, who is home in 1 behind 61.
+     */
+    private static final String LATER_DOORS = "h15;dc924;dc947;ds930;dc173;ds902;ds917;dc921;ds961;ds554;";
+    private static final String LATER_PEOPLE = "p519;p003;p379;p229;p645;p519;";
 
     public static void main(String[] args) {
         behindNoHour();
@@ -19,6 +25,7 @@ public final class MindBoundTest {
         shutInFromNobodyToAll();
         stuckFrom0To60();
         stillFor12Hours();
+        laterThan60IsNone();
         inThoughtHourPasses999();
         wayFrom0To7();
         wayIsNone();
@@ -32,6 +39,12 @@ public final class MindBoundTest {
     static DoorsOneSide longTown() {
         DoorsOneSide x = Due.of(LONG_DOORS);
         Due.tell(x, LONG_PEOPLE);
+        return x;
+    }
+
+    private static DoorsOneSide laterTown() {
+        DoorsOneSide x = Due.of(LATER_DOORS);
+        Due.tell(x, LATER_PEOPLE);
         return x;
     }
 
@@ -154,6 +167,27 @@ public final class MindBoundTest {
         DUE.is("one at once, one later", 4, Due.of("ds601;do023;p015;p115;p235;").stuck());
         DoorsOneSide x = Due.of("ds901;p015;p115;h01;");
         DUE.is("four still HOURS first", 4, x.stuck());
+    }
+
+    /** "(0 .. 60)", "-9": what comes behind 61 is not looked for, and behind 60, an HOUR later, it is. */
+    private static void laterThan60IsNone() {
+        DoorsOneSide x = laterTown();
+        DUE.is("ROOM behind 60", 2, x.personThen(0, 60, 0));
+        DUE.is("COMES behind 60", 60, x.comes(0, 2));
+        DUE.is("COMES behind 61", -9, x.comes(0, 1));
+        DUE.is("HOME behind 61", -9, x.home(0));
+        DUE.is("HOME behind 46", 46, x.home(4));
+        DUE.is("ALL HOME behind 61", -9, x.home(-1));
+        DUE.is("STUCK behind 61", -9, x.stuck());
+        DUE.is("LET behind 60", 21, x.letThen(60));
+        DUE.is("nothing is refused", 0, x.count(11) + x.count(14) + x.count(16));
+        x.hours(1);
+        DUE.is("COMES behind 60 then", 60, x.comes(0, 1));
+        DUE.is("HOME behind 60 then", 60, x.home(0));
+        DUE.is("ALL HOME behind 60 then", 60, x.home(-1));
+        DUE.is("STUCK behind 60 then", 60, x.stuck());
+        DUE.is("LET behind 60 then", 22, x.letThen(60));
+        DUE.is("all are home behind 60", 6, x.hours(60));
     }
 
     /** "(In thought HOUR may pass 999.)" */

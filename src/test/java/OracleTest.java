@@ -8,8 +8,9 @@ import java.util.Random;
 public final class OracleTest {
     private static final Due DUE = new Due("OracleTest");
     private static final int RUNS = 500;
-    /** Some calls are not counted, and an object is used for 512 at most. */
-    private static final int CALLS = 400;
+    /** An object is used for 512 at most; a town of 98 letters and 18 counts must still have room at the end. */
+    private static final int CALLS_MOST = 512;
+    private static final int CALLS = CALLS_MOST - 99 - 18;
 
     /** For each method the least and the greatest of each number it takes. */
     private static final Map<String, int[]> CALLED = new LinkedHashMap<>();
@@ -67,7 +68,7 @@ public final class OracleTest {
         if (run % 5 == 1) {
             comeNearTheEnd();
         }
-        while (calls < CALLS) {
+        while (calls <= CALLS) {
             int kind = lot.nextInt(20);
             if (kind == 0) {
                 tell(lot.nextBoolean() ? aTown() : spoilt(aTown()));
@@ -81,6 +82,7 @@ public final class OracleTest {
         for (int what = 0; what < 18; what++) {
             call("count", what);
         }
+        DUE.is("run " + run + " has too many calls", 0, calls > CALLS_MOST ? 1 : 0);
     }
 
     /** HOUR near 999, a ROW and letters nearly full: else a run seldom comes to their ends. */
@@ -135,6 +137,7 @@ public final class OracleTest {
         boolean isJudged = lot.nextBoolean();
         for (int i = 0; i < length; i++) {
             int v = isJudged ? due.person(i, 0) : due.personThen(person, i, 0);
+            calls++;
             if (isJudged) {
                 x.person(i, 0);
             } else {
@@ -167,7 +170,6 @@ public final class OracleTest {
         int into = (from + 1 + lot.nextInt(rooms - 1)) % rooms;
         int doors = Math.max(1, due.count(0));
         int people = Math.max(1, due.count(1));
-        x.count(0);
         switch (lot.nextInt(14)) {
             case 0: return "g" + lot.nextInt(people) + from + ";";
             case 1: return "r" + lot.nextInt(people) + from + ";";

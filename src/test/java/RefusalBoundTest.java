@@ -116,6 +116,7 @@ public final class RefusalBoundTest {
         is(-6, "moods 0 10", "moods 2 MAX");
         is(-1, "changes -1 0 0", "changes 3 0 0", "changes 3 6 0", "changes 3 0 -1", "changes 3 0 10", "changes 3 6 -1");
         is(-2, "changes 0 -1 0", "changes 0 6 0", "changes 0 6 -1", "changes 0 6 10", "changes 0 -1 -1", "changes 0 -1 10");
+        is(-2, "changes 0 7 0", "changes 0 MIN 0", "changes 2 MAX 9");
         is(-4, "changes 0 0 -1", "changes 2 5 MIN");
         is(-6, "changes 0 0 10", "changes 2 5 MAX");
         is(-4, "hours 0", "hours -1", "hours MIN");

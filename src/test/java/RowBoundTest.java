@@ -23,6 +23,7 @@ public final class RowBoundTest {
         countFrom0To16();
         countOfAnotherWhat();
         countOfEachRefusal();
+        the512thCall();
         DUE.end();
     }
 
@@ -335,5 +336,21 @@ public final class RowBoundTest {
         for (int i = 0; i < 6; i++) {
             DUE.is("count(" + (11 + i) + ")", due[i], x.count(11 + i));
         }
+    }
+
+    /** "An object is used for at most 512 calls after it has been made": the last of them is answered as the first. */
+    private static void the512thCall() {
+        DoorsOneSide x = new DoorsOneSide();
+        Calls.times(511, x, "on");
+        DUE.is("511 calls refused", 511, x.count(13));
+        x = new DoorsOneSide();
+        Calls.times(511, x, "letter 104");
+        DUE.is("96 letters taken, 415 refused", 415, x.count(16));
+        x = new DoorsOneSide();
+        for (int i = 0; i < 5; i++) {
+            DUE.is("24 HOURS told in 97 calls", 24, Due.tell(x, "h01;".repeat(24)));
+        }
+        Calls.times(26, x, "hours 33");
+        DUE.is("HOUR behind 511 calls", 120 + 26 * 33, x.count(2));
     }
 }

@@ -95,6 +95,7 @@ public final class TownBoundTest {
         DUE.is("turned once", 2, x.door(1, 3));
         DUE.is("w2; last", -2093, Due.tell(x, "w0;".repeat(31) + "w2;"));
         DUE.is("t2; last", -2093, Due.tell(x, "w0;".repeat(31) + "t2;"));
+        x = Due.of("dp001;dp223;");
         DUE.is("a DOOR last", 31, Due.tell(x, "w0;".repeat(30) + "dk967;"));
         DUE.is("the last DOOR's FIGURE", 9, x.door(2, 1));
         DUE.is("the last DOOR's ROOM into", 7, x.door(2, 3));
