@@ -974,7 +974,9 @@ public final class DoorsOneSide {
             for (int round = 1; round < ROOMS && isShorter; round++) {
                 isShorter = false;
                 for (int d = 0; d < size; d++) {
-                    isShorter |= shortenWaysBy(at(froms, d), at(intos, d));
+                    if (shortenWaysBy(at(froms, d), at(intos, d))) {
+                        isShorter = true;
+                    }
                 }
             }
             findFirsts();
